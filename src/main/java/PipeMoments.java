@@ -484,22 +484,18 @@ public final class PipeMoments {
     /**
      * The greatest stream through the moments: a moment is a place at a tick, and its number is
      * place * TICKS + tick. Units go from moment to moment by ways: through a pipe from a tick
-     * on, by waiting, or by setting out; each way has a limit, and carries some units.
+     * on, by waiting, or by setting out. A way has an even number; the odd one behind it is the
+     * way back, by which as many units can be taken from it as it carries.
      */
     private static final class Stream {
         private static final int MOMENTS = PLACES * TICKS;
-        // the ways through pipes are pipe * TICKS + tick, those behind them by waiting and setting out
-        private static final int WAITING = PIPES * TICKS;
-        private static final int SETTING_OUT = WAITING + MOMENTS;
-        private static final int WAYS = SETTING_OUT + PLACES;
+        private static final int FIRST_WAITING = 2 * PIPES * TICKS;
+        private static final int FIRST_SETTING_OUT = FIRST_WAITING + 2 * MOMENTS;
+        private static final int WAYS = FIRST_SETTING_OUT + 2 * PLACES;
         private static final int ENDLESS = 1000000;
-        // a way that is taken back has the number BACK - way
-        private static final int BACK = -1;
-        private static final int NOT_REACHED = -1000;
 
         private final Layout net = new Layout();
-        private final int[] limit = new int[WAYS];
-        private final int[] carried = new int[WAYS];
+        private final int[] left = new int[WAYS];
         private final int[] reachedBy = new int[MOMENTS];
         private final int[] reachedFrom = new int[MOMENTS];
         private final int[] queue = new int[MOMENTS];
@@ -559,7 +555,7 @@ public final class PipeMoments {
             int set = 0;
             for (int pipe = 0; pipe < net.pipeCount; pipe++) {
                 for (int tick = 0; tick < TICKS; tick++) {
-                    if (carried[pipe * TICKS + tick] > 0) {
+                    if (left[back(through(pipe, tick))] > 0) {
                         set |= 1 << pipe;
                     }
                 }
@@ -569,7 +565,7 @@ public final class PipeMoments {
 
         /** Of the plan that was found last: the search that found no more reached what is wanting. */
         boolean isWanting(int place, int tick) {
-            return reachedBy[place * TICKS + tick] != NOT_REACHED;
+            return reachedBy[place * TICKS + tick] != NONE;
         }
 
         /** The narrow pipes of the plan that was found last, which was one for this tick. */
@@ -588,7 +584,7 @@ public final class PipeMoments {
             int to = net.partOf(pipe, TO);
             int time = net.partOf(pipe, TIME);
             for (int at = 0; at + time <= tick; at++) {
-                boolean canBeEntered = limit[pipe * TICKS + at] > 0;
+                boolean canBeEntered = net.boundIn(pipe, at) > 0;
                 if (canBeEntered && isWanting(from, at) && !isWanting(to, at + time)) {
                     return true;
                 }
@@ -614,19 +610,41 @@ public final class PipeMoments {
             return NOT_FOUND;
         }
 
+        private static int through(int pipe, int tick) {
+            return 2 * (pipe * TICKS + tick);
+        }
+
+        private static int waiting(int moment) {
+            return FIRST_WAITING + 2 * moment;
+        }
+
+        private static int settingOut(int place) {
+            return FIRST_SETTING_OUT + 2 * place;
+        }
+
+        /** The way back of a way, and the way of a way back. */
+        private static int back(int way) {
+            return way ^ 1;
+        }
+
+        /** A plan in which nothing goes. */
         private void begin() {
-            Arrays.fill(carried, 0);
             for (int pipe = 0; pipe < net.pipeCount; pipe++) {
                 for (int tick = 0; tick < TICKS; tick++) {
-                    limit[pipe * TICKS + tick] = net.boundIn(pipe, tick);
+                    bind(through(pipe, tick), net.boundIn(pipe, tick));
                 }
             }
             for (int place = 0; place < net.placeCount; place++) {
+                bind(settingOut(place), net.unitsAt[place]);
                 for (int tick = 0; tick < TICKS; tick++) {
-                    limit[WAITING + place * TICKS + tick] = net.roomAt[place];
+                    bind(waiting(place * TICKS + tick), net.roomAt[place]);
                 }
-                limit[SETTING_OUT + place] = net.unitsAt[place];
             }
+        }
+
+        private void bind(int way, int limit) {
+            left[way] = limit;
+            left[back(way)] = 0;
         }
 
         /** Improves the plan until no more can come by the tick; returns how many more come. */
@@ -645,11 +663,11 @@ public final class PipeMoments {
 
         /** Finds how one unit more could come to the exit by the tick, the fewest ways first. */
         private void search(int tick) {
-            Arrays.fill(reachedBy, NOT_REACHED);
+            Arrays.fill(reachedBy, NONE);
             queued = 0;
             arrival = NONE;
             for (int place = EXIT + 1; place < net.placeCount; place++) {
-                tryWay(NONE, SETTING_OUT + place, place * TICKS);
+                tryWay(NONE, settingOut(place), place * TICKS);
             }
             for (int head = 0; head < MOMENTS && head < queued && arrival == NONE; head++) {
                 spread(queue[head], tick);
@@ -664,21 +682,21 @@ public final class PipeMoments {
                 int to = net.partOf(pipe, TO);
                 int time = net.partOf(pipe, TIME);
                 if (from == place && at + time <= tick) {
-                    tryWay(moment, pipe * TICKS + at, to * TICKS + at + time);
+                    tryWay(moment, through(pipe, at), to * TICKS + at + time);
                 } else if (to == place && at - time >= 0) {
-                    tryWay(moment, BACK - (pipe * TICKS + at - time), from * TICKS + at - time);
+                    tryWay(moment, back(through(pipe, at - time)), from * TICKS + at - time);
                 }
             }
             if (at + 1 <= tick) {
-                tryWay(moment, WAITING + moment, moment + 1);
+                tryWay(moment, waiting(moment), moment + 1);
             }
             if (at - 1 >= 0) {
-                tryWay(moment, BACK - (WAITING + moment - 1), moment - 1);
+                tryWay(moment, back(waiting(moment - 1)), moment - 1);
             }
         }
 
         private void tryWay(int from, int way, int to) {
-            if (reachedBy[to] != NOT_REACHED || leftOn(way) == 0) {
+            if (reachedBy[to] != NONE || left[way] == 0) {
                 return;
             }
             reachedBy[to] = way;
@@ -691,31 +709,22 @@ public final class PipeMoments {
             }
         }
 
-        private int leftOn(int way) {
-            return way >= 0 ? limit[way] - carried[way] : carried[BACK - way];
-        }
-
+        /** Lets as many units as possible go as the search has found; returns how many. */
         private int carryToArrival() {
             int amount = ENDLESS;
             int moment = arrival;
             for (int steps = 0; steps < MOMENTS && moment != NONE; steps++) {
-                amount = Math.min(amount, leftOn(reachedBy[moment]));
+                amount = Math.min(amount, left[reachedBy[moment]]);
                 moment = reachedFrom[moment];
             }
             moment = arrival;
             for (int steps = 0; steps < MOMENTS && moment != NONE; steps++) {
-                carry(reachedBy[moment], amount);
+                int way = reachedBy[moment];
+                left[way] -= amount;
+                left[back(way)] += amount;
                 moment = reachedFrom[moment];
             }
             return amount;
-        }
-
-        private void carry(int way, int amount) {
-            if (way >= 0) {
-                carried[way] += amount;
-            } else {
-                carried[BACK - way] -= amount;
-            }
         }
     }
 
