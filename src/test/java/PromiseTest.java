@@ -1,10 +1,10 @@
 /** Each promise of the document by hand: ordinary inputs, the edges that it names, wrong inputs. */
 public final class PromiseTest {
-    private static final int INVALID = PipeMoments.INVALID_ARGUMENT;
-    private static final int NOT_POSSIBLE = PipeMoments.NOT_POSSIBLE;
-    private static final int LIMIT = PipeMoments.LIMIT_REACHED;
-    private static final int NOT_FOUND = PipeMoments.NOT_FOUND;
-    private static final int[] FAR = {Integer.MIN_VALUE, -1000, -1, 1000, Integer.MAX_VALUE};
+    private static final int INVALID = Nets.INVALID;
+    private static final int NOT_POSSIBLE = Nets.NOT_POSSIBLE;
+    private static final int LIMIT = Nets.LIMIT;
+    private static final int NOT_FOUND = Nets.NOT_FOUND;
+    private static final int[] FAR = Nets.FAR;
 
     private static final Check check = new Check();
 
@@ -49,31 +49,6 @@ public final class PromiseTest {
 
     private static void due(String call, int got, int want) {
         check.due(call, got, want);
-    }
-
-    private static void write(PipeMoments x, String text) {
-        x.clearText();
-        for (char sign : text.toCharArray()) {
-            x.type(sign);
-        }
-    }
-
-    /** One place with ten units, and a pipe to the exit with the time 2 and the bound 3. */
-    private static PipeMoments line() {
-        PipeMoments x = new PipeMoments();
-        x.place(10, 40);
-        x.pipe(1, 0, 2, 3);
-        return x;
-    }
-
-    /** 2 -> 1 -> exit: the pipe 0 from 2 (time 1, bound 5), the pipe 1 from 1 (time 1, bound 2). */
-    private static PipeMoments chain(int units, int roomBetween) {
-        PipeMoments x = new PipeMoments();
-        x.place(0, roomBetween);
-        x.place(units, 40);
-        x.pipe(2, 1, 1, 5);
-        x.pipe(1, 0, 1, 2);
-        return x;
     }
 
     private static void constants() {
@@ -185,7 +160,7 @@ public final class PromiseTest {
 
     // promise 5
     private static void open() {
-        PipeMoments x = line();
+        PipeMoments x = Nets.line();
         for (int far : FAR) {
             due("open of pipe " + far, x.open(far, 0, 0), INVALID);
             due("open from " + far, x.open(0, far, 0), INVALID);
@@ -208,7 +183,7 @@ public final class PromiseTest {
 
     // promise 6
     private static void widen() {
-        PipeMoments x = line();
+        PipeMoments x = Nets.line();
         for (int far : FAR) {
             due("widen of pipe " + far, x.widen(far, 1), INVALID);
             due("widen to " + far, x.widen(0, far), INVALID);
@@ -226,7 +201,7 @@ public final class PromiseTest {
 
     // promise 7
     private static void units() {
-        PipeMoments x = line();
+        PipeMoments x = Nets.line();
         for (int far : FAR) {
             due("units of place " + far, x.units(far, 1), INVALID);
             due("units " + far, x.units(1, far), INVALID);
@@ -244,7 +219,7 @@ public final class PromiseTest {
 
     // promise 8
     private static void room() {
-        PipeMoments x = line();
+        PipeMoments x = Nets.line();
         for (int far : FAR) {
             due("room of place " + far, x.room(far, 1), INVALID);
             due("room " + far, x.room(1, far), INVALID);
@@ -264,7 +239,7 @@ public final class PromiseTest {
 
     // promise 9
     private static void pipeOf() {
-        PipeMoments x = line();
+        PipeMoments x = Nets.line();
         x.place(0, 0);
         x.pipe(2, 1, 4, 8);
         x.open(1, 6, 2);
@@ -283,7 +258,7 @@ public final class PromiseTest {
 
     // promise 10
     private static void placeOf() {
-        PipeMoments x = line();
+        PipeMoments x = Nets.line();
         x.place(7, 6);
         x.pipe(2, 1, 1, 1);
         x.pipe(2, 0, 1, 1);
@@ -306,7 +281,7 @@ public final class PromiseTest {
     }
 
     private static void placeOfLeastTick() {
-        PipeMoments x = chain(0, 0);
+        PipeMoments x = Nets.chain(0, 0);
         x.units(0, 3);
         due("the exit itself", x.placeOf(0, 4), 0);
         due("without units of its own", x.placeOf(2, 4), 2);
@@ -331,7 +306,7 @@ public final class PromiseTest {
 
     // promise 11
     private static void come() {
-        PipeMoments x = line();
+        PipeMoments x = Nets.line();
         int[] dueBy = {0, 0, 3, 6, 9, 10, 10};
         for (int tick = 0; tick < dueBy.length; tick++) {
             due("come(" + tick + ")", x.come(tick), dueBy[tick]);
@@ -352,7 +327,7 @@ public final class PromiseTest {
     }
 
     private static void comeWithRooms() {
-        PipeMoments x = chain(10, 40);
+        PipeMoments x = Nets.chain(10, 40);
         due("come(1)", x.come(1), 0);
         due("come(2)", x.come(2), 2);
         due("come(6)", x.come(6), 10);
@@ -370,7 +345,7 @@ public final class PromiseTest {
     }
 
     private static void comeWithOpenings() {
-        PipeMoments x = chain(10, 3);
+        PipeMoments x = Nets.chain(10, 3);
         x.open(1, 4, 5);
         due("three waited, and two come when two go", x.come(15), 4);
         due("come(5)", x.come(5), 2);
@@ -401,7 +376,7 @@ public final class PromiseTest {
 
     // promise 12
     private static void earliest() {
-        PipeMoments x = line();
+        PipeMoments x = Nets.line();
         due("earliest(-1)", x.earliest(-1), 5);
         due("earliest(0)", x.earliest(0), 0);
         due("earliest(1)", x.earliest(1), 2);
@@ -429,7 +404,7 @@ public final class PromiseTest {
 
     // promise 13
     private static void repeated() {
-        PipeMoments x = chain(0, 40);
+        PipeMoments x = Nets.chain(0, 40);
         x.units(0, 9);
         due("repeated(2, 1)", x.repeated(2, 1), 0);
         due("repeated(2, 2)", x.repeated(2, 2), 2);
@@ -462,7 +437,7 @@ public final class PromiseTest {
 
     // promise 14
     private static void narrow() {
-        PipeMoments x = line();
+        PipeMoments x = Nets.line();
         due("too early for any", x.narrow(1), 0);
         due("narrow(2)", x.narrow(2), 1);
         due("narrow(4)", x.narrow(4), 1);
@@ -474,7 +449,7 @@ public final class PromiseTest {
         due("only the quick one is in time", x.narrow(3), 1);
         x.open(0, 6, 5);
         due("one that is never open", x.narrow(4), 2);
-        PipeMoments y = chain(10, 40);
+        PipeMoments y = Nets.chain(10, 40);
         due("the last one alone", y.narrow(5), 2);
         y.room(1, 0);
         due("no room between: still the last one", y.narrow(5), 2);
@@ -490,7 +465,7 @@ public final class PromiseTest {
 
     // promise 15
     private static void wanting() {
-        PipeMoments x = chain(10, 40);
+        PipeMoments x = Nets.chain(10, 40);
         due("units are left out", x.wanting(4, 2, 0), 1);
         due("they could wait", x.wanting(4, 2, 4), 1);
         due("nothing is between yet", x.wanting(4, 1, 0), 0);
@@ -588,7 +563,7 @@ public final class PromiseTest {
         x.open(0, 1, 1);
         due("only when it is open", x.helpful(4, 0), 2);
         due("only when it is open, 3", x.helpful(4, 1), 3);
-        PipeMoments y = chain(10, 40);
+        PipeMoments y = Nets.chain(10, 40);
         due("the last one", y.helpful(4, 0), 1);
         due("the last one, by", y.helpful(4, 1), 3);
         for (int far : FAR) {
@@ -602,7 +577,7 @@ public final class PromiseTest {
 
     // promise 18
     private static void withOneMore() {
-        PipeMoments x = line();
+        PipeMoments x = Nets.line();
         due("all have come by 5", x.withOneMore(5, 1), 11);
         due("no more by 4", x.withOneMore(4, 1), 9);
         due("one of the exit's", x.withOneMore(4, 0), 10);
@@ -622,9 +597,9 @@ public final class PromiseTest {
 
     // promise 19
     private static void count() {
-        PipeMoments x = chain(10, 40);
+        PipeMoments x = Nets.chain(10, 40);
         x.units(0, 3);
-        write(x, "u1");
+        Nets.write(x, "u1");
         int[] counts = {3, 2, 13, 7, 4, 2};
         for (int what = 0; what < counts.length; what++) {
             due("count(" + what + ")", x.count(what), counts[what]);
@@ -662,7 +637,7 @@ public final class PromiseTest {
     }
 
     private static void undoOfEachChange() {
-        PipeMoments x = chain(10, 3);
+        PipeMoments x = Nets.chain(10, 3);
         x.undo();
         due("of pipe", x.count(1), 1);
         x.dropPipe(0);
@@ -684,7 +659,7 @@ public final class PromiseTest {
         x.place(1, 1);
         x.undo();
         due("of place", x.placeOf(3, 0), INVALID);
-        write(x, "h1,1;p3,1,1,1;u2,3;o0,1,1;");
+        Nets.write(x, "h1,1;p3,1,1,1;u2,3;o0,1,1;");
         x.play();
         due("undo of play", x.undo(), 3);
         due("of play, places", x.count(0), 3);
@@ -720,7 +695,7 @@ public final class PromiseTest {
     private static void clearText() {
         PipeMoments x = new PipeMoments();
         due("clearText()", x.clearText(), 0);
-        write(x, "abc");
+        Nets.write(x, "abc");
         due("fault(0)", x.fault(0), 0);
         due("clearText()", x.clearText(), 3);
         due("count(5)", x.count(5), 0);
@@ -730,7 +705,7 @@ public final class PromiseTest {
     }
 
     private static void fault(PipeMoments x, String text, int position, int reason, int cause) {
-        write(x, text);
+        Nets.write(x, text);
         due("position in " + text, x.fault(0), position);
         due("reason in " + text, x.fault(1), reason);
         due("cause in " + text, x.fault(2), cause);
@@ -739,7 +714,7 @@ public final class PromiseTest {
 
     // promise 23
     private static void faultOfTheForm() {
-        PipeMoments x = line();
+        PipeMoments x = Nets.line();
         fault(x, "x", 0, 1, 0);
         fault(x, ";", 0, 1, 0);
         fault(x, " h1,1;", 0, 1, 0);
@@ -773,7 +748,7 @@ public final class PromiseTest {
     }
 
     private static void faultOfNumbers() {
-        PipeMoments x = line();
+        PipeMoments x = Nets.line();
         fault(x, "h21,0;", 0, 2, 0);
         fault(x, "h20,41;", 0, 2, 1);
         fault(x, "h21,41;", 0, 2, 0);
@@ -791,7 +766,7 @@ public final class PromiseTest {
         fault(x, "u2,0;", 0, 2, 0);
         fault(x, "u1,21;", 0, 2, 1);
         fault(x, "u02,00;", 0, 2, 0);
-        write(x, "h00,00;o00,00,00;u00,09;");
+        Nets.write(x, "h00,00;o00,00,00;u00,09;");
         due("0 ahead is allowed", x.fault(0), NOT_FOUND);
     }
 
@@ -821,14 +796,14 @@ public final class PromiseTest {
         for (int far : FAR) {
             due("fault " + far, x.fault(far), INVALID);
         }
-        write(x, "u0,3;");
+        Nets.write(x, "u0,3;");
         for (int what = 0; what < 3; what++) {
             due("no fault " + what, x.fault(what), NOT_FOUND);
         }
         due("fault(3) without one", x.fault(3), INVALID);
         due("fault is no change", x.count(4), 0);
         due("fault does nothing", x.count(2), 0);
-        write(x, "u1,4;");
+        Nets.write(x, "u1,4;");
         due("as it is now", x.fault(0), 0);
         x.place(0, 0);
         due("as it is then", x.fault(0), NOT_FOUND);
@@ -841,7 +816,7 @@ public final class PromiseTest {
         PipeMoments x = new PipeMoments();
         due("play() of none", x.play(), 0);
         due("one change, also if there are none", x.count(4), 1);
-        write(x, "h07,06;h9,40;p1,0,2,3;p02,01,4,09;o1,2,15;u0,4;u2,20;");
+        Nets.write(x, "h07,06;h9,40;p1,0,2,3;p02,01,4,09;o1,2,15;u0,4;u2,20;");
         due("play()", x.play(), 7);
         due("one change", x.count(4), 2);
         due("the text stays", x.count(5), 53);
@@ -867,7 +842,7 @@ public final class PromiseTest {
     }
 
     private static void errorsChangeNothing() {
-        PipeMoments x = chain(10, 3);
+        PipeMoments x = Nets.chain(10, 3);
         x.undo();
         x.place(21, 0);
         x.pipe(1, 1, 1, 1);
@@ -877,7 +852,7 @@ public final class PromiseTest {
         x.widen(0, 10);
         x.units(2, 21);
         x.room(1, 41);
-        write(x, "u2,3;u9,1;");
+        Nets.write(x, "u2,3;u9,1;");
         x.play();
         due("states", x.count(4), 3);
         due("places", x.count(0), 3);
