@@ -551,7 +551,10 @@ public final class NetSentencesTest {
             due("its end is behind the tick", y.narrow(time - 1), 0);
         }
         PipeMoments z = Nets.chain(20, 40);
-        due("the end of the first one is wanting", z.narrow(9), 2);
+        for (int tick = 2; tick <= 10; tick++) {
+            due("the end of the first one is wanting by " + tick, z.narrow(tick), 2);
+        }
+        due("all have come by 11", z.narrow(11), 0);
         z.widen(1, 9);
         due("the end of the first one is not", z.narrow(4), 1);
     }

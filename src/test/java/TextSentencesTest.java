@@ -192,6 +192,15 @@ public final class TextSentencesTest {
             }
             noFault(Nets.line(), setting, 1);
         }
+        // what stood there before the text was emptied does not count
+        for (String setting : SETTINGS) {
+            PipeMoments x = Nets.line();
+            Nets.write(x, setting);
+            for (int length = setting.length() - 1; length > 0; length--) {
+                fault(x, setting.substring(0, length), 0, 1, length);
+            }
+        }
+
         check.says("its \";\" included");
         for (String setting : SETTINGS) {
             fault(Nets.line(), setting.substring(0, setting.length() - 1), 0, 1, setting.length() - 1);
