@@ -382,7 +382,7 @@ public final class ChangeSentencesTest {
     }
 
     private static void errorsOfTheState() {
-        check.says("NOT_POSSIBLE: A call that returns an error changes nothing.");
+        check.under("NOT_POSSIBLE: A call that returns an error changes nothing.");
         changesNothing("undo of an empty history", PipeMoments::new, x -> x.undo(), NOT_POSSIBLE);
         changesNothing("play of a text with a fault", ChangeSentencesTest::some, x -> x.play(), NOT_POSSIBLE);
         String[] texts = {"h1,1;h1,1", "u1,4;u1,5;u1,21;", "p1,0,1,1;o2,3,4;h1,1;x", "h1,1;h1,1;h1,1;h1,1;"};
@@ -394,12 +394,12 @@ public final class ChangeSentencesTest {
             }, x -> x.play(), NOT_POSSIBLE);
         }
 
-        check.says("LIMIT_REACHED: A call that returns an error changes nothing.");
+        check.under("LIMIT_REACHED: A call that returns an error changes nothing.");
         changesNothing("a seventh place", Nets::full, x -> x.place(1, 1), LIMIT);
         changesNothing("an eleventh pipe", Nets::full, x -> x.pipe(1, 0, 1, 1), LIMIT);
         changesNothing("a 61st character", ChangeSentencesTest::fullText, x -> x.type('x'), LIMIT);
 
-        check.says("NOT_FOUND: A call that returns an error changes nothing.");
+        check.under("NOT_FOUND: A call that returns an error changes nothing.");
         changesNothing("earliest(120)", Nets::full, x -> x.earliest(120), NOT_FOUND);
         changesNothing("placeOf(1, 4) without a way", ChangeSentencesTest::some, x -> x.placeOf(1, 4), NOT_FOUND);
         changesNothing("dearest(9, 0) of none", PipeMoments::new, x -> x.dearest(9, 0), NOT_FOUND);

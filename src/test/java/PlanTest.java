@@ -5,7 +5,7 @@ import java.util.Random;
  * and compares it with the program; the dice are always the same.
  */
 public final class PlanTest {
-    private static final int NETS = 120;
+    private static final int NETS = 300;
     private static final int LAST_TICK = 4;
     private static final int MANY = 50;
     private static final int NO_PLAN = -1000;
@@ -72,6 +72,57 @@ public final class PlanTest {
             }
         }
         check.due(name + "narrow(" + tick + ")", x.narrow(tick), net.narrowBy(tick, wanting));
+        compareLeastTicks(check, name, x, net);
+        compareWhatWouldBe(check, name, x, net, tick);
+    }
+
+    private static void compareLeastTicks(Check check, String name, PipeMoments x, PlanTest net) {
+        int all = 0;
+        for (int place = 0; place < net.units.length; place++) {
+            PlanTest alone = new PlanTest(new int[net.units.length], net.room, net.pipes);
+            alone.units[place] = 1;
+            check.due(name + "placeOf(" + place + ", 4)", soon(x.placeOf(place, 4)), alone.leastTickFor(1));
+            all += net.units[place];
+        }
+        for (int many = 0; many <= all + 1; many++) {
+            check.due(name + "earliest(" + many + ")", soon(x.earliest(many)), net.leastTickFor(many));
+        }
+        check.due(name + "earliest(-1)", soon(x.earliest(-1)), net.leastTickFor(all));
+    }
+
+    /** Ticks that the plans here do not reach are like none. */
+    private static int soon(int tick) {
+        return tick > LAST_TICK ? PipeMoments.NOT_FOUND : tick;
+    }
+
+    private static void compareWhatWouldBe(Check check, String name, PipeMoments x, PlanTest net, int tick) {
+        int dearest = PipeMoments.NOT_FOUND;
+        int fewest = PipeMoments.NOT_FOUND;
+        int helpful = PipeMoments.NOT_FOUND;
+        int greatest = PipeMoments.NOT_FOUND;
+        int most = net.mostBy(tick, -1, -1);
+        for (int pipe = 0; pipe < net.pipes.length; pipe++) {
+            int without = net.withBound(pipe, 0).mostBy(tick, -1, -1);
+            int more = net.withBound(pipe, net.pipes[pipe][3] + 1).mostBy(tick, -1, -1) - most;
+            if (pipe == 0 || without < fewest) {
+                dearest = pipe;
+                fewest = without;
+            }
+            if (more > Math.max(0, greatest)) {
+                helpful = pipe;
+                greatest = more;
+            }
+        }
+        check.due(name + "dearest(" + tick + ", 0)", x.dearest(tick, 0), dearest);
+        check.due(name + "dearest(" + tick + ", 1)", x.dearest(tick, 1), fewest);
+        check.due(name + "helpful(" + tick + ", 0)", x.helpful(tick, 0), helpful);
+        check.due(name + "helpful(" + tick + ", 1)", x.helpful(tick, 1), greatest);
+        for (int place = 0; place < net.units.length; place++) {
+            PlanTest other = new PlanTest(net.units.clone(), net.room, net.pipes);
+            other.units[place]++;
+            check.due(name + "withOneMore(" + tick + ", " + place + ")", x.withOneMore(tick, place),
+                other.mostBy(tick, -1, -1));
+        }
     }
 
     private PipeMoments laid() {
@@ -98,6 +149,22 @@ public final class PlanTest {
             net.pipes[pipe][5] = 15;
         }
         return net;
+    }
+
+    private PlanTest withBound(int pipe, int bound) {
+        PlanTest net = new PlanTest(units, room, pipes.clone());
+        net.pipes[pipe] = pipes[pipe].clone();
+        net.pipes[pipe][3] = bound;
+        return net;
+    }
+
+    private int leastTickFor(int many) {
+        for (int tick = 0; tick <= LAST_TICK; tick++) {
+            if (mostBy(tick, -1, -1) >= many) {
+                return tick;
+            }
+        }
+        return PipeMoments.NOT_FOUND;
     }
 
     private int narrowBy(int tick, boolean[][] wanting) {

@@ -50,7 +50,7 @@ public final class RangesTest {
 
     private static void range(
             Supplier<PipeMoments> net, String what, int least, int greatest, Call call, IntUnaryOperator due) {
-        check.says(what + ": " + least + " to " + greatest);
+        check.under(what + ": " + least + " to " + greatest);
         for (int number = least; number <= greatest; number++) {
             check.due(Integer.toString(number), call.of(net.get(), number), due.applyAsInt(number));
         }
